@@ -517,13 +517,9 @@ public final class WordKin {
             return rest % 10;
         }
 
+        /** The word and behind it an ending, which has one letter or two. */
         static int join(int word, int ending) {
-            int joined = word;
-            int letters = lengthOf(ending);
-            for (int i = 0; i < letters; i++) {
-                joined = 10 * joined + letterAt(ending, i);
-            }
-            return joined;
+            return (ending < 10 ? 10 : 100) * word + ending;
         }
 
         /** Whether a letter's neighbour (0: it has none) is what a sign tells. */

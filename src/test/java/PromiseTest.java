@@ -206,6 +206,11 @@ public final class PromiseTest {
         due("5 no roots", x.about(0), 0);
         due("5 no endings", x.about(1), 0);
         due("5 no changes", x.about(2), 0);
+        listAnew(x, "RcdRbEe");
+        due("5 another root", x.part(0, 0), 34);
+        due("5 another root", x.part(0, 1), 2);
+        due("5 another ending", x.part(1, 0), 5);
+        due("5 no third root", x.part(0, 2), UNKNOWN);
         due("5 the most parts", listedParts("RaRbRcRdEaEbEcCab**Cab**Cab**Cab**"), 11);
     }
 
@@ -236,6 +241,11 @@ public final class PromiseTest {
         // the word without letters is a word too
         due("6 empty words", listed("RaRbEaEbCa-**Cb-**").about(3), 1);
         due("6 none active without endings", listed("RaCab**").about(4), 0);
+        due("6 active in unlike words", listed("RaRbRcEdCae**Cbe**Cda**Cda**").about(4), 7);
+        WordKin fewer = listed("RcRaEdCab**");
+        due("6 active in the second root", fewer.about(4), 1);
+        listAnew(fewer, "RcEdCab**");
+        due("6 not in a root that is no more", fewer.about(4), 0);
         // active by the order: behind the first change there is no a any more
         WordKin y = listed("RaEaCab**Cac**");
         due("6 active by the order", y.about(4), 1);
@@ -483,6 +493,8 @@ public final class PromiseTest {
         due("18 no other change", listed("RaEaCad**Cab**Cac**").cross(1, 2), 1);
         WordKin y = listed("RcReEcEaCab**Cbc**");
         due("18 by some root and ending", y.cross(0, 1), 1);
+        listAnew(y, "RcEcCab**Cbc**");
+        due("18 not by those that are no more", y.cross(0, 1), 0);
         due("18 a change with itself that goes on", listed("RaaaEaCa-a*").cross(0, 0), 0);
     }
 
@@ -579,6 +591,10 @@ public final class PromiseTest {
         due("20 exceptions told otherwise", x.judge(1, 6101), 0);
         due("20 kind 0", x.judge(2, 30010000), 1);
         due("20 kind 0 first", x.judge(2, 3001), 0);
+        due("20 nothing told", x.judge(1, 0), 0);
+        due("20 nothing told, four times", x.judge(4, 0), 0);
+        due("20 six letters", listed("RabcdEab").judge(1, 3006), NONE);
+        due("20 no letters", listed("RaEaCa-**").judge(1, 3000), NONE);
         due("20 kind 7", x.judge(1, 7000), 0);
         due("20 kind 9", x.judge(1, 9000), 0);
         due("20 the last of four", x.judge(4, 3001300130013002L), 3);
@@ -704,6 +720,13 @@ public final class PromiseTest {
         due("24 an ending that is no more, was not", x.which(0), 125);
         listAnew(x, "EaEc");
         due("24 another ending by its number", x.which(0), 125);
+        x.unsee();
+        x.see(1, 0, 1, 1);
+        listAnew(x, "Ea");
+        due("24 no letter a of an ending that is no more", x.which(0), 0);
+        x.unsee();
+        x.see(0, 4, 1, 1);
+        due("24 no letter a where there is none", x.which(0), 0);
         WordKin y = listed("EeaCa-**");
         y.see(0, 0, 5, 1);
         // roots whose first letter behind the a is e, or that are all a
