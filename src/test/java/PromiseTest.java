@@ -9,25 +9,15 @@ public final class PromiseTest {
     }
 
     private static WordKin written(String text) {
-        WordKin x = new WordKin();
-        write(x, text);
-        return x;
-    }
-
-    private static void write(WordKin x, String text) {
-        for (char c : text.toCharArray()) x.write(c);
+        return Kin.written(text);
     }
 
     private static WordKin listed(String text) {
-        WordKin x = written(text);
-        checks.dueTrue("list() of " + text, x.list() >= 0);
-        return x;
+        return Kin.listed(text);
     }
 
     private static void listAnew(WordKin x, String text) {
-        x.wipe();
-        write(x, text);
-        checks.dueTrue("list() anew of " + text, x.list() >= 0);
+        Kin.listAnew(x, text);
     }
 
     public static void main(String[] args) {
