@@ -100,6 +100,18 @@ public final class EdgeTest {
         the.due("empty then", x.about(9), 0);
         the.due("no fault then", x.fault(0), NONE);
         the.due("room then", x.write('R'), 1);
+        WordKin listed = some();
+        listed.swap(0, 2);
+        listed.tell(1, 1, 5);
+        listed.see(0, 0, 1, 1);
+        listed.keep(0);
+        the.due("of a list's text", listed.wipe(), 25);
+        the.due("the list stays", listed.part(0, 0), 12);
+        the.due("the order stays", listed.order(0), 2);
+        the.due("the form stays", listed.form(1, 1), 5);
+        the.due("the doings stay", listed.about(7), 2);
+        the.due("what was seen stays", listed.about(8), 1);
+        the.due("what was kept stays", listed.again(0), 1);
     }
 
     private static void fault() {
@@ -160,6 +172,7 @@ public final class EdgeTest {
         WordKin x = some();
         x.swap(0, 2);
         x.resign(1, 1, 0);
+        x.tell(0, 0, 5);
         x.tell(1, 1, 5);
         x.keep(0);
         x.keep(1);
@@ -168,7 +181,8 @@ public final class EdgeTest {
         the.due("how many parts", x.list(), 7);
         for (int place = 0; place < 3; place++) the.due("order", x.order(place), place);
         the.due("sign", x.sign(1, 1), 3);
-        the.due("form", x.form(1, 1), NONE);
+        the.due("the first form", x.form(0, 0), NONE);
+        the.due("the last form", x.form(1, 1), NONE);
         the.due("forms", x.about(6), 0);
         the.due("doings", x.about(7), 0);
         the.due("undo()", x.undo(), LATE);
@@ -221,7 +235,7 @@ public final class EdgeTest {
         the.due("about(7), full", full.about(7), 14);
         for (int i = 0; i < 9; i++) full.see(0, 0, 1, 1);
         the.due("about(8), full", full.about(8), 6);
-        while (full.write('x') != FULL) the.dueTrue("60 at most", full.about(9) <= 60);
+        for (int i = 0; i < 60; i++) full.write('x');
         the.due("about(9), full", full.about(9), 60);
         int[] bad = {-1, 10, 11, LEAST, MOST};
         for (int what : bad) the.due("about(" + what + ")", full.about(what), BAD);

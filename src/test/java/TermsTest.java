@@ -225,8 +225,10 @@ public final class TermsTest {
         the.due("fault(0)", x.fault(0), 3);
         Kin.write(x, "abRbCab**");
         the.due("fault(0) with a list behind", x.fault(0), 3);
-        while (x.write('E') != FULL) the.due("fault(0) with more behind", x.fault(0), 3);
-        the.due("fault(0) of a full text", x.fault(0), 3);
+        for (int length = 14; length <= 60; length++) {
+            the.due("letter " + length, x.write('E'), length);
+            the.due("fault(0) with more behind", x.fault(0), 3);
+        }
         the.due("fault(1) of a full text", x.fault(1), 1);
     }
 
@@ -360,6 +362,10 @@ public final class TermsTest {
         x.swap(2, 0);
         int[] order = {2, 1, 0};
         for (int place = 0; place < 3; place++) the.due("two places", x.order(place), order[place]);
+        // places are told, not the changes that they have
+        x.swap(0, 1);
+        int[] then = {1, 2, 0};
+        for (int place = 0; place < 3; place++) the.due("two places then", x.order(place), then[place]);
     }
 
     private static void fourteenDoings() {
@@ -404,7 +410,8 @@ public final class TermsTest {
                 WordKin x = Kin.listed("RaEbEcCab**Cbc**");
                 doOne(x, kind);
                 for (int i = 0; i < others; i++) x.tell(0, 1, wordNumber(i));
-                while (x.undo() != LATE) the.dueTrue("14 at most", x.about(7) < 14);
+                for (int left = Math.min(others + 1, 14) - 1; left >= 0; left--) the.due("undo()", x.undo(), left);
+                the.due("no more to undo", x.undo(), LATE);
                 int due = others < 14 ? before[kind] : behind[kind];
                 the.due("kind " + kind + ", " + others + " behind it", seenOf(x, kind), due);
             }
@@ -506,6 +513,9 @@ public final class TermsTest {
         bestDue(last, 0, 3210, 1);
         last.tell(0, 0, 1);
         bestDue(last, 1, 123, 24);
+        WordKin first = Kin.listed("RaEaCab**Cbc**");
+        first.tell(0, 0, 33);
+        bestDue(first, 0, 1, 1);
         WordKin none = Kin.listed("RaRbEa");
         none.tell(0, 0, 0);
         none.tell(1, 0, 21);
@@ -708,6 +718,13 @@ public final class TermsTest {
         the.due("not any more: the first", x.which(1), NONE);
         Kin.listAnew(x, "EaEbEc");
         the.due("there again", x.which(0), 125);
+        for (int v = 1; v <= 5; v++) {
+            WordKin y = Kin.listed("Ea");
+            y.see(0, 0, v, 1);
+            y.wipe();
+            y.list();
+            the.due("nothing has no letter " + v, y.which(0), 0);
+        }
         x.unsee();
         x.see(2, 3, 3, 0);
         the.due("there still: was not", x.which(0), 0);
@@ -800,6 +817,7 @@ public final class TermsTest {
         rootDrawnDue(511, "bdca");
         rootDrawnDue(512, "cedb");
         rootDrawnDue(2048, "dbce");
+        rootDrawnDue(2560, "aaaa");
         rootDrawnDue((1L << 31) - 1, "cabd");
         rootDrawnDue(1L << 30, "edbc");
     }
@@ -836,11 +854,17 @@ public final class TermsTest {
         the.due("form", x.form(0, 0), NONE);
         the.due("no doings", x.about(7), 0);
         the.due("undo()", x.undo(), LATE);
+        x.see(0, 0, 1, 1);
+        x.seed(6L);
+        x.write('R');
         the.due("again(1)", x.again(1), 1);
         the.due("order", x.order(0), 1);
         the.due("change", x.sign(0, 0), 5);
         the.due("form", x.form(0, 0), 4);
         the.due("no doings", x.about(7), 0);
+        the.due("what is seen is not kept, so it stays", x.about(8), 1);
+        the.due("nor is the text", x.about(9), 15);
+        the.due("nor is the seed", x.seed(0L), 6);
     }
 
     private static void refusals() {

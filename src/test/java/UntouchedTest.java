@@ -63,7 +63,7 @@ public final class UntouchedTest {
 
     private static WordKin allUndone() {
         WordKin x = some();
-        while (x.about(7) > 0) x.undo();
+        for (int i = 0; i < 4; i++) x.undo();
         return x;
     }
 
@@ -78,7 +78,7 @@ public final class UntouchedTest {
         x.swap(1, 2);
         for (int i = 0; i < 6; i++) x.see(i % 3, 4, 1 + i % 5, 0);
         x.seed(Long.MIN_VALUE);
-        while (x.write('a') != FULL) x.about(9);
+        for (int i = x.about(9); i < 60; i++) x.write('a');
         return x;
     }
 
