@@ -412,7 +412,8 @@ public final class EdgeTest {
             the.due("and v", x.resign(change, 0, 9), UNKNOWN);
         }
         for (int which : badWhich) the.due("resign(0, " + which + ", 1)", x.resign(0, which, 1), BAD);
-        int[][] badV = {{0, 6, -1, LEAST, MOST}, {-1, 6, 7, LEAST, MOST}, {0, 8, -1, LEAST, MOST}, {0, 8, -1, LEAST, MOST}};
+        int[][] badV = {
+            {0, 6, -1, LEAST, MOST}, {-1, 6, 7, LEAST, MOST}, {0, 8, -1, LEAST, MOST}, {0, 8, -1, LEAST, MOST}};
         for (int which = 0; which < 4; which++) {
             for (int v : badV[which]) the.due("resign(3, " + which + ", " + v + ")", x.resign(3, which, v), BAD);
         }
@@ -422,7 +423,8 @@ public final class EdgeTest {
     }
 
     private static void tell() {
-        the.ofPromise(16, "FORMED: EXCEPTIONS then. UNKNOWN: root, ending; BAD: word (NONE: none any more; else as told).");
+        the.ofPromise(16, "FORMED: EXCEPTIONS then. UNKNOWN: root, ending;"
+                + " BAD: word (NONE: none any more; else as told).");
         WordKin x = all();
         the.due("the first: no letters", x.tell(0, 0, 0), 1);
         the.due("the last: six letters", x.tell(3, 2, 555555), 2);

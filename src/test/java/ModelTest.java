@@ -17,6 +17,8 @@ import java.util.regex.Pattern;
 public final class ModelTest {
     private static final int RUNS = 1500;
     private static final int CALLS = 512;
+    /** A text of two lists is written, with a call before it and three behind. */
+    private static final int MOST_CALLS_OF_A_STEP = 102;
 
     public static void main(String[] args) {
         Checks checks = new Checks();
@@ -43,7 +45,7 @@ public final class ModelTest {
         void go() {
             writeText(randomList());
             listIt();
-            while (calls < CALLS) {
+            while (calls <= CALLS - MOST_CALLS_OF_A_STEP) {
                 if (random.nextInt(60) == 0) {
                     due("wipe()", kin.wipe(), model.wipe());
                     writeText(random.nextInt(3) == 0 ? randomNoise() : randomList());

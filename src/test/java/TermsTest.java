@@ -558,10 +558,11 @@ public final class TermsTest {
 
     private static void judgedSigned() {
         the.of("2, a CHANGE, a SIGN (0 FROM, 1 TO, 2 AHEAD, 3 BEHIND), v (as told below): SIGNED;");
-        WordKin x = Kin.listed("RaEaCab**Cbc**");
         int[] least = {1, 0, 1, 1};
         int[] most = {5, 5, 7, 7};
         for (int change = 0; change <= 9; change++) {
+            // another object each time, as one answers 512 calls and no more
+            WordKin x = Kin.listed("RaEaCab**Cbc**");
             for (int which = 0; which <= 9; which++) {
                 for (int v = 0; v <= 9; v++) {
                     boolean may = change < 2 && which < 4 && v >= least[which] && v <= most[which];
@@ -573,9 +574,9 @@ public final class TermsTest {
 
     private static void judgedMade() {
         the.of("3, a ROOT, an ENDING, v: what is MADE has v LETTERS;");
-        WordKin x = Kin.listed("RaRddddEaEddCa-**");
         int[][] lengths = {{0, 2}, {4, 6}};
         for (int root = 0; root <= 9; root++) {
+            WordKin x = Kin.listed("RaRddddEaEddCa-**");
             for (int ending = 0; ending <= 9; ending++) {
                 for (int v = 0; v <= 9; v++) {
                     boolean is = root < 2 && ending < 2 && lengths[root][ending] == v;
@@ -826,7 +827,8 @@ public final class TermsTest {
         the.of("becomes x times 6364136223846793005 and 1442695040888963407 (64 bits, wrapping)");
         long[][] seeds = {
             {0L, 1442695040888963407L}, {1L, 7806831264735756412L}, {-1L, -4921441182957829598L},
-            {2L, -4275776585127002199L}, {Long.MAX_VALUE, 4301930853896946210L}, {Long.MIN_VALUE, -7780676995965812401L}};
+            {2L, -4275776585127002199L}, {Long.MAX_VALUE, 4301930853896946210L},
+            {Long.MIN_VALUE, -7780676995965812401L}};
         for (long[] seed : seeds) {
             WordKin x = new WordKin();
             x.seed(seed[0]);

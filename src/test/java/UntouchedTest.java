@@ -73,7 +73,9 @@ public final class UntouchedTest {
         x.keep(0);
         x.swap(0, 3);
         x.resign(2, 1, 4);
-        for (int pair = 0; pair < 12; pair++) x.tell(pair / 3, pair % 3, pair % 2 == 0 ? 12345 : x.made(pair / 3, pair % 3));
+        for (int pair = 0; pair < 12; pair++) {
+            x.tell(pair / 3, pair % 3, pair % 2 == 0 ? 12345 : x.made(pair / 3, pair % 3));
+        }
         x.keep(1);
         x.swap(1, 2);
         for (int i = 0; i < 6; i++) x.see(i % 3, 4, 1 + i % 5, 0);
@@ -132,7 +134,9 @@ public final class UntouchedTest {
         for (int i = 0; i < 4; i++) b.append(" part ").append(x.part(0, i)).append(' ').append(x.part(1, i));
         for (int i = 0; i < 16; i++) b.append(" sign ").append(x.sign(i / 4, i % 4));
         for (int place = 0; place < 4; place++) b.append(" order ").append(x.order(place));
-        for (int i = 0; i < 12; i++) b.append(" made ").append(x.made(i / 3, i % 3)).append(' ').append(x.form(i / 3, i % 3));
+        for (int i = 0; i < 12; i++) {
+            b.append(" made ").append(x.made(i / 3, i % 3)).append(' ').append(x.form(i / 3, i % 3));
+        }
         for (int what = 0; what <= 2; what++) b.append(" best ").append(x.best(what));
         b.append(" which ").append(x.which(0)).append(' ').append(x.which(1));
         b.append(" drawn ").append(x.drawn(7)).append(" seed ").append(x.seed(0L));
@@ -222,7 +226,9 @@ public final class UntouchedTest {
         }
         refused(s, "apart(NONE, 0)", BAD, x -> x.apart(NONE, 0));
         for (int k : around(s.changes + 1)) refused(s, "step(0, 0, " + k + ")", due, x -> x.step(0, 0, k));
-        for (int tenths : around(11)) refused(s, "fails(0, 0, " + tenths + ", true)", due, x -> x.fails(0, 0, tenths, true));
+        for (int tenths : around(11)) {
+            refused(s, "fails(0, 0, " + tenths + ", true)", due, x -> x.fails(0, 0, tenths, true));
+        }
         for (int i : around(5)) refused(s, "see(0, " + i + ", 1, 1)", due, x -> x.see(0, i, 1, 1));
         int[] noLetters = {0, 6, -1, LEAST, MOST};
         for (int v : noLetters) refused(s, "see(0, 0, " + v + ", 1)", due, x -> x.see(0, 0, v, 1));
@@ -271,11 +277,11 @@ public final class UntouchedTest {
 
     private static void asked(State s) {
         List<Consumer<WordKin>> questions = List.of(
-                x -> x.fault(0), x -> x.fault(1), x -> x.part(0, 0), x -> x.part(1, 0), x -> x.sign(0, 0), x -> x.order(0),
-                x -> x.made(0, 0), x -> x.step(0, 0, 1), x -> x.apart(12, 0), x -> x.apart(12, 1), x -> x.form(0, 0),
-                x -> x.cross(0, 1), x -> x.best(0), x -> x.best(1), x -> x.best(2), x -> x.share(0, true),
-                x -> x.share(1, false), x -> x.which(0), x -> x.which(1), x -> x.fails(0, 0, 3, true),
-                x -> x.fails(1, 1, 10, false));
+                x -> x.fault(0), x -> x.fault(1), x -> x.part(0, 0), x -> x.part(1, 0), x -> x.sign(0, 0),
+                x -> x.order(0), x -> x.made(0, 0), x -> x.step(0, 0, 1), x -> x.apart(12, 0), x -> x.apart(12, 1),
+                x -> x.form(0, 0), x -> x.cross(0, 1), x -> x.best(0), x -> x.best(1), x -> x.best(2),
+                x -> x.share(0, true), x -> x.share(1, false), x -> x.which(0), x -> x.which(1),
+                x -> x.fails(0, 0, 3, true), x -> x.fails(1, 1, 10, false));
         for (int i = 0; i < questions.size(); i++) dueUntouched(s, "question " + i, questions.get(i));
         for (int what = 0; what <= 9; what++) {
             int asked = what;
