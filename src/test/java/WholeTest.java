@@ -1,5 +1,6 @@
 import java.util.ArrayList;
 import java.util.Arrays;
+import java.util.Collections;
 import java.util.HashSet;
 import java.util.List;
 import java.util.Set;
@@ -108,7 +109,7 @@ public final class WholeTest {
             callEach(x, a, b, c);
             calls++;
         }
-        the.due("each call has answered so often", calls, 20 * CALLS);
+        the.due("each call has answered, so often", calls, 20 * CALLS);
     }
 
     private static void callEach(WordKin x, int a, int b, int c) {
@@ -242,7 +243,7 @@ public final class WholeTest {
     private static List<Integer> anOrder(int many) {
         List<Integer> order = new ArrayList<>();
         for (int change = many - 1; change >= 0; change--) order.add(change);
-        if (many > 1) java.util.Collections.swap(order, 0, 1);
+        if (many > 1) Collections.swap(order, 0, 1);
         return order;
     }
 
@@ -417,6 +418,8 @@ public final class WholeTest {
             many.merge(exceptions, 1, Integer::sum);
             least.merge(exceptions, figures, Math::min);
         }
+        // it is of all orders, whichever there is now
+        if (shift > 0) putInOrder(x, anOrder(changes.size()));
         String of = String.join("", list) + ", shift " + shift;
         the.due("best(0) of " + of, x.best(0), many.firstKey());
         the.due("best(1) of " + of, x.best(1), least.firstEntry().getValue());
@@ -606,17 +609,17 @@ public final class WholeTest {
     private static void faultIsTold() {
         the.ofPromise(4, "the number of the PART in which it is, from 0 on (1;");
         String list = "RaEbCcd**Re";
+        // of each letter: in which part it stands
         int[] parts = {0, 0, 1, 1, 2, 2, 2, 2, 2, 3, 3};
-        boolean[] ends = {true, false, true, false, true, false, false, false, false, true, false, true};
         for (int length = 0; length < list.length(); length++) {
+            boolean between = "REC".indexOf(list.charAt(length)) >= 0;
+            int part = between ? parts[length] : parts[length - 1];
             WordKin x = Kin.written(list.substring(0, length) + "?");
             the.due("fault(0), ? behind " + length, x.fault(0), length);
-            boolean between = length == 0 || length == 2 || length == 4 || length == 9;
-            the.due("fault(1), ? behind " + length, x.fault(1), between ? parts[length] : parts[length - 1]);
+            the.due("fault(1), ? behind " + length, x.fault(1), part);
             WordKin cut = Kin.written(list.substring(0, length));
             the.due("fault(0), cut behind " + length, cut.fault(0), between ? NONE : length);
-            the.due("fault(1), cut behind " + length, cut.fault(1), between ? NONE : parts[length - 1]);
-            the.dueTrue("parts end where they do", ends[length] == between);
+            the.due("fault(1), cut behind " + length, cut.fault(1), between ? NONE : part);
         }
         the.ofPromise(4, "NONE: none. BAD.");
         the.due("none, and bad", new WordKin().fault(2), -2);
